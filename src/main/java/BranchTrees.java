@@ -503,9 +503,11 @@ public final class BranchTrees {
         }
 
         /**
-         * One row at most, all factors times the sign. A bound that is moved here is not the one
-         * that LEAST is made of, so LEAST stays, (right - REST) / f is the other bound and
-         * slack / f, and a slack that is not below 0 leaves no l above u.
+         * Narrows by one row at most, its factors times the sign; true if that closes the box.
+         * LEAST is made of l where f is above 0 and of u where it is below; the row moves the
+         * other bound, so LEAST stays, and (right - REST) / f is that l or u plus slack / f.
+         * With a slack of 0 or more no l comes above u, and a division towards 0 is
+         * downwards for f above 0 and upwards for f below 0, as it is due.
          */
         private boolean closes(Box box, int[] factors, int sign, int right) {
             int slack = right - box.leastOf(factors, sign, problem.nameCount);

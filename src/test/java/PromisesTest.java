@@ -242,6 +242,16 @@ public final class PromisesTest {
         row(x, 0, 4, 1, 2, 7);
         row(x, 0, 4, 2, 1, 8);
         Expect.is("6: another factor of a third", x.alike(0, 1), 0);
+        BranchTrees y = names(0, 5, 0, 5, 0, 5);
+        row(y, 2, 4, 7, 1, 2);
+        row(y, 2, 4, 8, 2, 1);
+        Expect.is("6: another factor of the first", y.alike(1, 2), 0);
+        y.factor(1, 0, 7);
+        Expect.is("6: the same factor of the first", y.alike(1, 2), 1);
+        BranchTrees z = names(0, 5, 0, 5);
+        row(z, 0, 4, 1, 0);
+        row(z, 1, -4, 0, -1);
+        Expect.is("6: rows that say the same are not the same", z.alike(0, 1), 0);
     }
 
     private static void promise7Order() {
@@ -422,6 +432,24 @@ public final class PromisesTest {
         Expect.is("10: value", x.best(0), 3);
         Expect.is("10: value", x.best(1), 3);
         Expect.is("10: COST", x.best(-1), 9);
+        BranchTrees edge = names(-3, 4);
+        starts(edge, -4);
+        Expect.is("10: below the low end", edge.offer(), 0);
+        starts(edge, 5);
+        Expect.is("10: above the high end", edge.offer(), 0);
+        starts(edge, 4);
+        Expect.is("10: the high end", edge.offer(), 1);
+        edge.cost(0, 1);
+        starts(edge, -3);
+        Expect.is("10: the low end", edge.offer(), 1);
+        // Without NAMES there is one way to give each a value, and it keeps a row that 0 keeps.
+        BranchTrees empty = new BranchTrees();
+        empty.row(1, 1);
+        Expect.is("10: no NAMES, a row that is not kept", empty.offer(), 0);
+        BranchTrees bare = new BranchTrees();
+        bare.row(0, 0);
+        Expect.is("10: no NAMES, a row that is kept", bare.offer(), 1);
+        Expect.is("10: no NAMES, COST", bare.best(-1), 0);
         BranchTrees y = names(0, 9);
         y.cost(0, 1);
         starts(y, 5);
