@@ -2,8 +2,10 @@ import java.util.Random;
 
 /** Many runs of calls, drawn from fixed seeds, on the program and on the model: each answer the same. */
 public final class AgainstModelTest {
-    private static final int RUNS = 2_500;
+    private static final int RUNS = 5_000;
+    // An object is used for that many calls; the longest step below makes MOST_AT_ONCE.
     private static final int CALLS = 512;
+    private static final int MOST_AT_ONCE = 13;
 
     private final Random random;
     private final BranchTrees program = new BranchTrees();
@@ -12,6 +14,7 @@ public final class AgainstModelTest {
     private final int valueSpread;
     private int names;
     private int rows;
+    private int spent;
 
     private AgainstModelTest(int seed) {
         random = new Random(seed);
@@ -34,11 +37,11 @@ public final class AgainstModelTest {
         for (int made = 0; made < shape[1] && made < 1 + random.nextInt(16); made++) {
             tellRow();
         }
-        for (int call = 0; call < CALLS / 2 && !Expect.failed(); call++) {
-            tellOften();
-        }
-        if (random.nextInt(3) == 0) {
-            for (int call = 0; call < 30 && !Expect.failed(); call++) {
+        int wildFrom = random.nextInt(3) == 0 ? CALLS / 2 : CALLS;
+        while (spent + MOST_AT_ONCE <= CALLS && !Expect.failed()) {
+            if (spent < wildFrom) {
+                tellOften();
+            } else {
                 tellWrongly();
             }
         }
@@ -48,6 +51,7 @@ public final class AgainstModelTest {
     }
 
     private void same(String call, int got, int want) {
+        spent++;
         calls.append(' ').append(call).append('=').append(want);
         Expect.is(call, got, want);
     }

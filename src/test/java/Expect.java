@@ -2,8 +2,14 @@
 final class Expect {
     private static int wrong = 0;
     private static int asked = 0;
+    private static String sentence = "";
 
     private Expect() {
+    }
+
+    /** The words of the document that the next answers are held against. */
+    static void about(String words) {
+        sentence = words + ": ";
     }
 
     static void is(String call, long got, long want) {
@@ -11,7 +17,7 @@ final class Expect {
         if (got != want) {
             wrong++;
             if (wrong <= 50) {
-                System.out.println(call + " answered " + got + ", due is " + want);
+                System.out.println(sentence + call + " answered " + got + ", due is " + want);
             }
         }
     }
