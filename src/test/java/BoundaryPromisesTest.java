@@ -93,6 +93,7 @@ public final class BoundaryPromisesTest {
 
     private static void bounds() {
         boundWithoutTree();
+        boundOfOpenNodesAlone();
         boundNotAboveBest();
         boundNoneOpen();
         boundWithoutBestToo();
@@ -401,12 +402,12 @@ public final class BoundaryPromisesTest {
         Expect.is("order()", x.order(), 2);
         Expect.is("alike(0, 1)", x.alike(0, 1), 1);
         Expect.is("alike(0, 2)", x.alike(0, 2), 1);
-        x.factor(0, 0, 7);
-        Expect.is("an ORDER that was changed", x.alike(0, 1), 1);
         Tell.row(x, AT_MOST, 0, 1, -1);
         Expect.is("a ROW that says what an ORDER says", x.alike(0, 1), 0);
         Tell.row(x, AT_MOST, 0, -1, 1);
         Expect.is("and its other", x.alike(0, 1), 1);
+        x.factor(0, 0, 7);
+        Expect.is("an ORDER that was changed", x.alike(0, 1), 1);
     }
 
     private static void orderOfFewNames() {
@@ -817,6 +818,18 @@ public final class BoundaryPromisesTest {
         Expect.is("a TREE", x.bound(), 0);
         x.restart();
         Expect.is("it went", x.bound(), Tell.BAD_COST);
+    }
+
+    private static void boundOfOpenNodesAlone() {
+        Expect.about("14: with NODES that are open: the least LOWER of these");
+        BranchTrees x = Tell.names(0, 7);
+        x.cost(0, 1);
+        x.rule(2, 1);
+        x.run(2);
+        Expect.is("4 .. 7, 2 .. 3 and 0 .. 1 are open", x.bound(), 0);
+        Tell.row(x, AT_LEAST, 5, 1);
+        x.run(1);
+        Expect.is("7 and 5 .. 6 are open, none of the TREE before", x.bound(), 5);
     }
 
     private static void boundNotAboveBest() {
